@@ -352,7 +352,9 @@ public final class SandTreaty {
         if (h < 0 || h > MOST_SEEN_HOURS) {
             return OUTSIDE;
         }
-        return sightings.bestToAsk(sightings.begins(), h);
+        int begins = sightings.begins();
+        sightings.countInForce(begins, h);
+        return sightings.bestToAsk(Integer.bitCount(begins));
     }
 
     public int note(int k, int c) {
@@ -980,6 +982,7 @@ public final class SandTreaty {
 
         void search(int clauses, int hours, int hour) {
             set = clauses;
+            // No more than the rows hold, whatever set comes.
             size = Math.min(Integer.bitCount(clauses), PLAN_CLAUSES);
             stands = hours;
             start = hour;
@@ -1008,10 +1011,13 @@ public final class SandTreaty {
                     continue;
                 }
                 for (int c = 0; c < p.ground.cellCount; c++) {
+                    if (p.isTaken(c, depth)) {
+                        continue;
+                    }
                     int begun = p.ground.firstHour(c, false, from, until);
                     int done = begun + p.ground.takes[k];
                     int end = Math.min(until, p.ground.firstHour(c, true, begun, done + p.ground.wind));
-                    if (!p.isTaken(c, depth) && p.isBetter(done, end)) {
+                    if (p.isBetter(done, end)) {
                         p.order[depth] = k + 10 * c;
                         place(p, depth + 1, done, end);
                     }
@@ -1019,7 +1025,7 @@ public final class SandTreaty {
             }
         }
 
-        /** Whether the last hour, when it is counted from this end on, comes while all stands and sooner than before. */
+        /** Whether the last of the hours, counted from this end on, comes while all stands and sooner than the best. */
         private boolean isBetter(int done, int until) {
             int last = done + stands - 1;
             return last <= until && last - start < best;
@@ -1104,7 +1110,8 @@ public final class SandTreaty {
         final int[] clauses = new int[MOST_SEEN];
         final int[] hours = new int[MOST_SEEN];
         final boolean[] so = new boolean[MOST_SEEN];
-        final int[] alike = new int[MOST_CLAUSES];
+        /** By how many begins each clause is in force, as last counted. */
+        final int[] inForce = new int[MOST_CLAUSES];
         int count;
 
         Sightings(Strand ground, Sand tried) {
@@ -1159,37 +1166,21 @@ public final class SandTreaty {
 
         private boolean fitsBehind(int h, int force) {
             for (int i = 0; i < count; i++) {
-                boolean inForce = (force >> clauses[i] & 1) != 0;
-                if (hours[i] == h && inForce != so[i]) {
+                boolean stood = (force >> clauses[i] & 1) != 0;
+                if (hours[i] == h && stood != so[i]) {
                     return false;
                 }
             }
             return true;
         }
 
-        /** The clause that parts the begins best behind h hours. */
-        int bestToAsk(int begins, int h) {
-            countAlike(begins, h);
-            int all = Integer.bitCount(begins);
-            int best = NONE;
-            int least = all;
-            for (int k = 0; k < ground.clauseCount; k++) {
-                int part = Math.max(alike[k], all - alike[k]);
-                if (part < least) {
-                    least = part;
-                    best = k;
-                }
-            }
-            return best;
-        }
-
-        private void countAlike(int begins, int h) {
+        void countInForce(int begins, int h) {
             for (int k = 0; k < MOST_CLAUSES; k++) {
-                alike[k] = 0;
+                inForce[k] = 0;
             }
             for (int begin = 0; begin < BEGINS; begin++) {
                 if ((begins >> begin & 1) != 0) {
-                    countForce(forceBehind(begin, h));
+                    addForce(forceBehind(begin, h));
                 }
             }
         }
@@ -1202,10 +1193,24 @@ public final class SandTreaty {
             return tried.forceSet();
         }
 
-        private void countForce(int force) {
+        private void addForce(int force) {
             for (int k = 0; k < MOST_CLAUSES; k++) {
-                alike[k] += force >> k & 1;
+                inForce[k] += force >> k & 1;
             }
+        }
+
+        /** The clause that parts so many begins best, by what was counted. */
+        int bestToAsk(int all) {
+            int best = NONE;
+            int least = all;
+            for (int k = 0; k < ground.clauseCount; k++) {
+                int part = Math.max(inForce[k], all - inForce[k]);
+                if (part < least) {
+                    least = part;
+                    best = k;
+                }
+            }
+            return best;
         }
     }
 

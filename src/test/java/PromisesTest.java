@@ -168,6 +168,8 @@ public final class PromisesTest {
         x.strand();
         Check.feed(x, "k");
         x.strand();
+        Check.feed(x, "t4,5;w7;c1;");
+        due("3: the wind told again in another text", x.strand(), 0);
         Check.feed(x, "t4,5;c1;k1 9 3 4;k2 0 20 0;");
         due("3: strand", x.strand(), 2);
         due("4: no fault any more", x.fault(), NONE);
@@ -367,6 +369,8 @@ public final class PromisesTest {
         due("11: hours", z.told(5), 9030);
         due("11: undone", z.undo(30), 9000);
         due("11: again", z.hour(1), 0);
+        due("11: 9001 is above", z.hour(1), FULL);
+        due("12: 9001 is above", z.drift(1), FULL);
     }
 
     /** The draws, told here by their rule. */
@@ -408,6 +412,13 @@ public final class PromisesTest {
         w.drift(3);
         draw(16);
         due("12: without cells, too", w.seed(0), drawn);
+        SandTreaty v = Check.on("t0;c5;k1 9 0 0;");
+        v.drift(1);
+        drawn = 0;
+        draw(1);
+        draw(1);
+        draw(16);
+        due("12: one clause and one cell are drawn, too", v.seed(0), drawn);
     }
 
     private void promise13() {
@@ -540,6 +551,10 @@ public final class PromisesTest {
         due("16: the longer first in the high cell", w.plan(3, 1, NONE), 4);
         due("16: its first", w.plan(3, 1, 0), 21);
         due("16: its second", w.plan(3, 1, 1), 0);
+        w.hour(2);
+        due("16: from hour 2 on, the shorter one waits for hour 6", w.plan(3, 1, NONE), 5);
+        due("16: the longer one first", w.plan(3, 1, 0), 21);
+        due("16: counted from now", w.plan(1, 3, NONE), 3);
     }
 
     private void promise17() {
@@ -568,6 +583,8 @@ public final class PromisesTest {
         SandTreaty y = Check.on("t0;k2 9 13 10;k2 9 13 10;k1 9 10 12;");
         due("17: of like ones the lesser clause", y.bargain(3, 1, 2, 2), 1);
         due("17: both by turns", y.bargain(3, 3, 4, 2), 3);
+        due("17: no hours left for the second", y.bargain(3, 3, 3, 2), 1);
+        due("17: one left for the third", y.bargain(7, 2, 3, 2), 5);
     }
 
     private void promise18() {
@@ -711,6 +728,8 @@ public final class PromisesTest {
         due("25: the second", x.judge(), 1);
         x.storm();
         due("25: gone", x.judge(), 2);
+        x.write(0, 1);
+        due("25: the first", x.judge(), 0);
     }
 
     private void promise26() {
