@@ -272,7 +272,8 @@ public final class SandTreaty {
             return UNKNOWN;
         }
         int size = Integer.bitCount(set);
-        if (size < 1 || size > PLAN_CLAUSES || m < 1 || m > PLAN_MOST_STANDS || i < NONE || i >= size) {
+        // Places are bound by the longest order, not by this set: what a smaller one lacks is NONE, not refused.
+        if (size < 1 || size > PLAN_CLAUSES || m < 1 || m > PLAN_MOST_STANDS || i < NONE || i >= PLAN_CLAUSES) {
             return OUTSIDE;
         }
         planner.search(set, m, now.hours);
@@ -588,7 +589,8 @@ public final class SandTreaty {
             faultKind = 0;
             faultAt = NONE;
             draft.empty();
-            if (length > 0) {
+            // Blanks may stand anywhere, so a text of nothing else tells no more than an empty one.
+            if (nextLetter() != NONE) {
                 readTides();
                 for (int n = 0; n < MOST_LETTERS && faultKind == 0 && nextLetter() != NONE; n++) {
                     readPart();

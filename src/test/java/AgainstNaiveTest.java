@@ -35,6 +35,9 @@ public final class AgainstNaiveTest {
     }
 
     private String text() {
+        if (to(30) == 0) {
+            return " ".repeat(to(3));
+        }
         StringBuilder s = new StringBuilder("t");
         int top = 4 + to(15);
         int tides = 1 + (to(30) == 0 ? 12 : to(11));

@@ -180,7 +180,7 @@ final class NaiveTreaty {
         text.setLength(0);
         Told next;
         try {
-            next = all.isEmpty() ? null : parse(all);
+            next = all.replace(" ", "").isEmpty() ? null : parse(all);
         } catch (Fault f) {
             faultAt = f.at;
             return -10 - f.kind;
@@ -533,7 +533,7 @@ final class NaiveTreaty {
             return UNKNOWN;
         }
         int size = Integer.bitCount(set);
-        if (size < 1 || size > 3 || m < 1 || m > 12 || i < -1 || i >= size) {
+        if (size < 1 || size > 3 || m < 1 || m > 12 || i < -1 || i > 2) {
             return OUTSIDE;
         }
         planSoonest = Integer.MAX_VALUE;
@@ -541,7 +541,10 @@ final class NaiveTreaty {
         if (planSoonest == Integer.MAX_VALUE) {
             return NONE;
         }
-        return i == NONE ? planSoonest : planBest.get(i);
+        if (i == NONE) {
+            return planSoonest;
+        }
+        return i < planBest.size() ? planBest.get(i) : NONE;
     }
 
     int[] worth(int set) {

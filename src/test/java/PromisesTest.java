@@ -88,13 +88,19 @@ public final class PromisesTest {
 
     private void faults() {
         fault("", 0, NONE);
+        fault(" ", 0, NONE);
+        fault("   ", 0, NONE);
+        fault(" ".repeat(240), 0, NONE);
         fault("t0;", 0, NONE);
         fault(" t 19 , 000 ; ", 0, NONE);
         fault("t0,1,2,3,4,5,6,7,8,9,10,11;", 0, NONE);
         fault("t1;w30;", 0, NONE);
         fault("t1;c0;c19;w1;", 0, NONE);
         // 1: it cannot stand there
-        fault("   ", 1, 3);
+        fault("  x", 1, 2);
+        fault("  ;", 1, 2);
+        fault("" + (char) 9, 1, 0);
+        fault(" " + (char) 160, 1, 1);
         fault("x", 1, 0);
         fault("T1;", 1, 0);
         fault("c1;", 1, 0);
@@ -186,6 +192,33 @@ public final class PromisesTest {
         due("3: no tides", x.told(0), 0);
         due("3: no wind", x.told(1), 0);
         due("3: no image", x.goBack(1), NOT);
+        blankText();
+    }
+
+    /** Blanks alone tell what the empty text tells, behind a strand, too. */
+    private void blankText() {
+        SandTreaty x = Check.on(CALM);
+        x.seed(77);
+        x.write(0, 1);
+        x.hour(3);
+        x.see(0, 1, true);
+        x.note(0, 1);
+        x.keep(0);
+        x.hour(1);
+        Check.feed(x, "x");
+        x.strand();
+        Check.feed(x, "  ");
+        due("3: blanks", x.strand(), 0);
+        due("4: blanks have no fault", x.fault(), NONE);
+        int[] told = {0, 0, 0, 0, 0, 0, 0, 0, NONE, 0, 1000000, 1000000, 0, 0, 0};
+        for (int what = 0; what < told.length; what++) {
+            due("3: blanks, told " + what, x.told(what), told[what]);
+        }
+        due("3: blanks, no strand", x.hour(1), NOT);
+        due("3: blanks, no clause", x.clause(0, 0), UNKNOWN);
+        due("3: blanks, no image", x.goBack(0), NOT);
+        due("3: blanks, no begins", x.agreed(0), 0);
+        due("3: blanks, the seed stays", x.seed(0), 77);
     }
 
     private void promise5() {
@@ -520,7 +553,15 @@ public final class PromisesTest {
         due("16: m 0", x.plan(1, 0, NONE), OUTSIDE);
         due("16: m 13", x.plan(1, 13, NONE), OUTSIDE);
         due("16: i -2", x.plan(1, 1, -2), OUTSIDE);
-        due("16: i 1 of one", x.plan(1, 1, 1), OUTSIDE);
+        due("16: i lowest", x.plan(1, 1, LOWEST), OUTSIDE);
+        due("16: i 3, no order has it", x.plan(7, 1, 3), OUTSIDE);
+        due("16: i 3 of one", x.plan(1, 1, 3), OUTSIDE);
+        due("16: i highest", x.plan(1, 1, HIGHEST), OUTSIDE);
+        due("16: i 1 of one", x.plan(1, 1, 1), NONE);
+        due("16: i 2 of one", x.plan(1, 1, 2), NONE);
+        due("16: i 2 of two", x.plan(3, 1, 2), NONE);
+        due("16: i 1 of one, no plan", x.plan(1, 6, 1), NONE);
+        due("16: i 1 of none", x.plan(0, 1, 1), OUTSIDE);
         due("16: one", x.plan(1, 1, NONE), 2);
         due("16: its place", x.plan(1, 1, 0), 10);
         due("16: five hours", x.plan(1, 5, NONE), 6);
