@@ -272,8 +272,8 @@ public final class SandTreaty {
             return UNKNOWN;
         }
         int size = Integer.bitCount(set);
-        // Places are bound by the longest order, not by this set: what a smaller one lacks is NONE, not refused.
-        if (size < 1 || size > PLAN_CLAUSES || m < 1 || m > PLAN_MOST_STANDS || i < NONE || i >= PLAN_CLAUSES) {
+        // The document bounds no place from above: one that the order lacks is NONE, not refused.
+        if (size < 1 || size > PLAN_CLAUSES || m < 1 || m > PLAN_MOST_STANDS || i < NONE) {
             return OUTSIDE;
         }
         planner.search(set, m, now.hours);

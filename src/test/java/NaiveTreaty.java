@@ -533,7 +533,7 @@ final class NaiveTreaty {
             return UNKNOWN;
         }
         int size = Integer.bitCount(set);
-        if (size < 1 || size > 3 || m < 1 || m > 12 || i < -1 || i > 2) {
+        if (size < 1 || size > 3 || m < 1 || m > 12 || i < -1) {
             return OUTSIDE;
         }
         planSoonest = Integer.MAX_VALUE;

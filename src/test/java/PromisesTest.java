@@ -554,9 +554,16 @@ public final class PromisesTest {
         due("16: m 13", x.plan(1, 13, NONE), OUTSIDE);
         due("16: i -2", x.plan(1, 1, -2), OUTSIDE);
         due("16: i lowest", x.plan(1, 1, LOWEST), OUTSIDE);
-        due("16: i 3, no order has it", x.plan(7, 1, 3), OUTSIDE);
-        due("16: i 3 of one", x.plan(1, 1, 3), OUTSIDE);
-        due("16: i highest", x.plan(1, 1, HIGHEST), OUTSIDE);
+        due("16: i 3 of three", x.plan(7, 1, 3), NONE);
+        due("16: i 3 of one", x.plan(1, 1, 3), NONE);
+        due("16: i 4 of two", x.plan(3, 1, 4), NONE);
+        due("16: i highest", x.plan(1, 1, HIGHEST), NONE);
+        due("16: i highest of three", x.plan(7, 1, HIGHEST), NONE);
+        due("16: i highest, no plan", x.plan(1, 6, HIGHEST), NONE);
+        due("16: i 3, a set of none", x.plan(0, 1, 3), OUTSIDE);
+        due("16: i 3, m 13", x.plan(1, 13, 3), OUTSIDE);
+        due("16: i 3, m 0", x.plan(1, 0, 3), OUTSIDE);
+        due("16: i 3, bit 3", x.plan(8, 1, 3), UNKNOWN);
         due("16: i 1 of one", x.plan(1, 1, 1), NONE);
         due("16: i 2 of one", x.plan(1, 1, 2), NONE);
         due("16: i 2 of two", x.plan(3, 1, 2), NONE);
@@ -580,6 +587,7 @@ public final class PromisesTest {
         due("16: the sand stays", x.told(8), 0);
         SandTreaty y = Check.on("t0;c1;k1 9 1 1;k1 9 1 1;k1 9 1 1;k1 9 1 1;");
         due("16: four", y.plan(15, 1, NONE), OUTSIDE);
+        due("16: four, i 3", y.plan(15, 1, 3), OUTSIDE);
         due("16: one cell for two", y.plan(3, 1, NONE), NONE);
         due("16: the greatest clause", y.plan(8, 12, NONE), 12);
         due("16: and its place", y.plan(8, 12, 0), 3);
