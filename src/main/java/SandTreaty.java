@@ -272,8 +272,8 @@ public final class SandTreaty {
             return UNKNOWN;
         }
         int size = Integer.bitCount(set);
-        // The document bounds no place from above: one that the order lacks is NONE, not refused.
-        if (size < 1 || size > PLAN_CLAUSES || m < 1 || m > PLAN_MOST_STANDS || i < NONE) {
+        // The document bounds no place, from neither side: one that the order lacks is NONE, not refused.
+        if (size < 1 || size > PLAN_CLAUSES || m < 1 || m > PLAN_MOST_STANDS) {
             return OUTSIDE;
         }
         planner.search(set, m, now.hours);

@@ -210,7 +210,7 @@ public final class AgainstNaiveTest {
     private void askPlan() {
         int set = near(0, 63);
         int m = to(2) == 0 ? near(1, 12) : near(1, 3);
-        int i = near(-1, 4);
+        int i = near(-3, 4);
         if (to(1) == 0) {
             set &= 7;
         }

@@ -533,7 +533,7 @@ final class NaiveTreaty {
             return UNKNOWN;
         }
         int size = Integer.bitCount(set);
-        if (size < 1 || size > 3 || m < 1 || m > 12 || i < -1) {
+        if (size < 1 || size > 3 || m < 1 || m > 12) {
             return OUTSIDE;
         }
         planSoonest = Integer.MAX_VALUE;
@@ -544,7 +544,7 @@ final class NaiveTreaty {
         if (i == NONE) {
             return planSoonest;
         }
-        return i < planBest.size() ? planBest.get(i) : NONE;
+        return i >= 0 && i < planBest.size() ? planBest.get(i) : NONE;
     }
 
     int[] worth(int set) {

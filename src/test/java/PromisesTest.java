@@ -552,8 +552,17 @@ public final class PromisesTest {
         due("16: none", x.plan(0, 1, NONE), OUTSIDE);
         due("16: m 0", x.plan(1, 0, NONE), OUTSIDE);
         due("16: m 13", x.plan(1, 13, NONE), OUTSIDE);
-        due("16: i -2", x.plan(1, 1, -2), OUTSIDE);
-        due("16: i lowest", x.plan(1, 1, LOWEST), OUTSIDE);
+        due("16: i -2", x.plan(1, 1, -2), NONE);
+        due("16: i -3", x.plan(1, 1, -3), NONE);
+        due("16: i -2 of three", x.plan(7, 1, -2), NONE);
+        due("16: i -2, no plan", x.plan(1, 6, -2), NONE);
+        due("16: i lowest", x.plan(1, 1, LOWEST), NONE);
+        due("16: i lowest of three", x.plan(7, 1, LOWEST), NONE);
+        due("16: i lowest, no plan", x.plan(1, 6, LOWEST), NONE);
+        due("16: i -2, a set of none", x.plan(0, 1, -2), OUTSIDE);
+        due("16: i -2, m 13", x.plan(1, 13, -2), OUTSIDE);
+        due("16: i -2, m 0", x.plan(1, 0, -2), OUTSIDE);
+        due("16: i -2, bit 3", x.plan(8, 1, -2), UNKNOWN);
         due("16: i 3 of three", x.plan(7, 1, 3), NONE);
         due("16: i 3 of one", x.plan(1, 1, 3), NONE);
         due("16: i 4 of two", x.plan(3, 1, 4), NONE);
@@ -588,6 +597,7 @@ public final class PromisesTest {
         SandTreaty y = Check.on("t0;c1;k1 9 1 1;k1 9 1 1;k1 9 1 1;k1 9 1 1;");
         due("16: four", y.plan(15, 1, NONE), OUTSIDE);
         due("16: four, i 3", y.plan(15, 1, 3), OUTSIDE);
+        due("16: four, i -2", y.plan(15, 1, -2), OUTSIDE);
         due("16: one cell for two", y.plan(3, 1, NONE), NONE);
         due("16: the greatest clause", y.plan(8, 12, NONE), 12);
         due("16: and its place", y.plan(8, 12, 0), 3);
