@@ -2,14 +2,31 @@
 final class Check {
     private int wrong = 0;
     private int seen = 0;
+    private String words = "";
+
+    /** The document's words that the checks from here on are about. */
+    void sentence(String quoted) {
+        words = "\"" + quoted + "\": ";
+    }
 
     void due(String what, long got, long want) {
         seen++;
         if (got != want) {
-            wrong++;
-            if (wrong <= 50) {
-                System.out.println(what + " answered " + got + ", due is " + want);
-            }
+            fail(what + " answered " + got + ", due is " + want);
+        }
+    }
+
+    void same(String what, String got, String want) {
+        seen++;
+        if (!got.equals(want)) {
+            fail(what + " is\n" + got + "\ndue is\n" + want);
+        }
+    }
+
+    private void fail(String what) {
+        wrong++;
+        if (wrong <= 50) {
+            System.out.println(words + what);
         }
     }
 
