@@ -2,14 +2,17 @@ import java.util.Random;
 
 /** Random runs of calls, each answered by the class and by NaiveTreaty. */
 public final class AgainstNaiveTest {
-    private static final int RUNS = 6000;
-    private static final int CALLS = 160;
+    private static final int RUNS = 12000;
+    /** What an object answers behind so many calls is free. */
+    private static final int MOST_CALLS = 512;
+    private static final int CALLS_TO_COMPARE = 144;
 
     private final Check check = new Check();
     private final Random random;
     private SandTreaty treaty;
     private NaiveTreaty naive;
     private String log = "";
+    private int calls;
 
     private AgainstNaiveTest(long seed) {
         random = new Random(seed);
@@ -89,11 +92,15 @@ public final class AgainstNaiveTest {
     }
 
     private void due(String call, int got, int want) {
+        calls++;
         check.due(log + " " + call, got, want);
     }
 
     private void tellStrand() {
         String text = text();
+        if (!hasRoomFor(text.length() + 3)) {
+            return;
+        }
         log = log + " '" + text + "'";
         for (int i = 0; i < text.length(); i++) {
             due("feed", treaty.feed(text.charAt(i)), naive.feed(text.charAt(i)));
@@ -236,14 +243,20 @@ public final class AgainstNaiveTest {
         }
     }
 
+    /** Whether so many calls may still come, and all be compared behind them. */
+    private boolean hasRoomFor(int more) {
+        return calls + more + CALLS_TO_COMPARE <= MOST_CALLS;
+    }
+
     private void run() {
         treaty = new SandTreaty();
         naive = new NaiveTreaty();
         log = "";
+        calls = 0;
         if (to(9) != 0) {
             tellStrand();
         }
-        for (int i = 0; i < CALLS && check.wrong() == 0; i++) {
+        while (hasRoomFor(1) && check.wrong() == 0) {
             int kind = to(30);
             if (kind == 0 && to(4) == 0) {
                 tellStrand();
@@ -254,7 +267,7 @@ public final class AgainstNaiveTest {
             } else {
                 ask();
             }
-            if (to(7) == 0) {
+            if (to(99) == 0 && hasRoomFor(CALLS_TO_COMPARE)) {
                 compareAll();
             }
         }

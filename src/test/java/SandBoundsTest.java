@@ -342,8 +342,7 @@ public final class SandBoundsTest {
     // ---- promises 11 to 13
 
     private void howManyHours() {
-        check.sentence("n HOURS (1 .. 30) pass: IN FORCE. OUTSIDE");
-        check.sentence("n HOURS BY DRAWS (1 .. 30): IN FORCE. OUTSIDE");
+        check.sentence("n HOURS (1 .. 30) pass .. n HOURS BY DRAWS (1 .. 30): IN FORCE. OUTSIDE");
         int[] outside = {0, -1, 31, 32, LOWEST, HIGHEST};
         for (int n : outside) {
             SandTreaty x = Check.on("t1;");

@@ -198,6 +198,43 @@ public final class TriedBoundsTest {
         SandTreaty full = s.and("write 0 1", "hour 1", "write 1 0", "hour 1").made();
         check.due("both are there", full.plan(3, 2, NONE), 4);
         check.due("what it leans on is rubbed out", full.plan(2, 1, NONE), NONE);
+        SandTreaty y = Check.on("t0;c1;c1;c1;k1 9 1 1;k1 0 1 1;k1 9 1 1;k1 1 1 1;");
+        check.due("nobody of the set leans", y.plan(4, 1, NONE), 1);
+        check.due("one leans on one of the set", y.plan(7, 1, NONE), 3);
+        check.due("one leans on one that is not of the set", y.plan(12, 1, NONE), NONE);
+        check.due("one leans on one that leans on one that is not of the set", y.plan(10, 1, NONE), NONE);
+        check.due("all that it leans on is of the set", y.plan(11, 1, NONE), 3);
+    }
+
+    private void planFromNow() {
+        check.sentence("TRIED from now");
+        SandTreaty x = Check.on("t0,0,0,0,0,5;c5;c5;k2 9 1 1;k1 9 1 1;");
+        int[] hours = new int[6];
+        int[] second = new int[6];
+        for (int h = 0; h < 6; h++) {
+            hours[h] = x.plan(3, 1, NONE);
+            second[h] = x.plan(3, 1, 1);
+            x.hour(1);
+        }
+        check.due("at hour 0", hours[0], 3);
+        check.due("at hour 2", hours[2], 3);
+        check.due("at hour 3: the second one waits, the first one is washed", hours[3], NONE);
+        check.due("at hour 5: one hour of flood first", hours[5], 4);
+        for (int i = 1; i <= 8; i++) {
+            for (int h = 0; h < 6; h++) {
+                check.due("at hour " + x.told(5), x.plan(3, 1, NONE), hours[h]);
+                check.due("second at hour " + x.told(5), x.plan(3, 1, 1), second[h]);
+                x.hour(1);
+            }
+        }
+        SandTreaty late = new Script("text t0;w23;c1;c1;c1;k6 9 1 1;k6 9 1 1;k6 9 1 1;", "strand", "301 * hour 30").made();
+        check.due("hours", late.told(5), 9030);
+        check.due("the longest one, at the latest hour", late.plan(7, 12, NONE), 29);
+        check.due("its third place", late.plan(7, 12, 2), 22);
+        check.due("lasts", late.lasts(0, 0), 24);
+        late.write(0, 2);
+        check.due("washed", late.washed(0), 30);
+        check.due("crossing", late.crossing(0), 6);
     }
 
     private void planWaits() {
@@ -228,6 +265,7 @@ public final class TriedBoundsTest {
         // the last cell, the last clauses: the greatest answer
         SandTreaty y = Check.on("t5;" + "c5;".repeat(8) + "c6;" + "k1 9 1 1;".repeat(6));
         check.due("the last clause in the last cell", y.plan(32, 1, 0), 85);
+        check.due("two clauses in the last cell", y.plan(48, 1, NONE), NONE);
         // 1 must wait for the end of the flood in cell 1, so 0 in cell 1 comes with 1 in cell 0 in the same hour
         SandTreaty z = Check.on("t3,0,0,0;c5;c2;k1 9 1 1;k1 9 1 1;");
         check.due("soonest", z.plan(3, 1, NONE), 2);
@@ -333,6 +371,11 @@ public final class TriedBoundsTest {
         SandTreaty z = Check.on("t0;k2 9 12 10;k1 9 13 10;k1 9 0 11;");
         check.due("leaves no hour", z.bargain(7, 2, 2, 2), 1);
         check.due("with one turn", z.bargain(7, 1, 2, 2), 2);
+        check.sentence("the shores choose by turns, the one first");
+        SandTreaty w = Check.on("t0;k1 9 10 11;k1 9 11 10;");
+        check.due("the one takes the greater, none is left to the other one", w.bargain(3, 1, 2, 2), 2);
+        check.due("then the other one the lesser", w.bargain(3, 2, 2, 2), 3);
+        check.due("no hour for the other one", w.bargain(3, 2, 1, 2), 2);
     }
 
     private void turnsOfNone() {
@@ -437,6 +480,7 @@ public final class TriedBoundsTest {
         planHours();
         longestPlan();
         planFreshSand();
+        planFromNow();
         planWaits();
         planTies();
         planPlaces();
