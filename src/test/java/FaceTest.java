@@ -19,6 +19,15 @@ public final class FaceTest {
         "hour int", "drift int", "undo int", "lasts int int", "washed int", "plan int int int",
         "bargain int int int int", "crossing int", "leaners int", "storms int int", "see int int boolean", "agreed int",
         "lookAt int", "note int int", "judge", "tear", "seed int", "keep int", "goBack int"};
+    private static final String[][] SECTIONS = {
+        {"the strand", "feed", "strand", "fault", "told", "clause", "cell"},
+        {"deeds", "write", "rub", "storm", "hour", "drift", "undo"},
+        {"tried", "lasts", "washed", "plan", "bargain", "crossing", "leaners", "storms"},
+        {"what was seen", "see", "agreed", "lookAt", "note", "judge", "tear"},
+        {"images", "seed", "keep", "goBack"}};
+    /** What rule 4 lists and the class uses; another one must be looked up there first. */
+    private static final Set<String> LIBRARY = Set.of("System.arraycopy", "Math.max", "Math.min", "Integer.bitCount",
+        "Integer.numberOfTrailingZeros");
     private static final String[] BARRED = {
         "\\bthrow\\b", "\\bthrows\\b", "\\btry\\b", "\\bcatch\\b", "\\bsynchronized\\b", "\\bassert\\b", "->", "::",
         "\\bimport\\b", "\\bpackage\\b", "\\bvar\\b", "\\bprotected\\b", "Exact\\b", "\\bnative\\b", "\\bvolatile\\b",
@@ -88,8 +97,58 @@ public final class FaceTest {
             Matcher m = Pattern.compile(barred).matcher(code);
             check.that("no " + barred, !m.find());
         }
+        sections(text);
+        library(code);
+        made(code.split("\n"));
         check.that("classes", SandTreaty.class.getDeclaredClasses().length + 1 <= MOST_CLASSES);
         methodLengths(text.split("\n"));
+    }
+
+    /** Ahead of the calls the interface says "---- the strand" and so on. */
+    private void sections(String text) {
+        StringBuilder got = new StringBuilder();
+        Matcher m = Pattern.compile("(?m)^ {4}(?:// ---- (.*)|public int (\\w+)\\(.*)$").matcher(text);
+        while (m.find()) {
+            got.append(m.group(1) == null ? " " + m.group(2) : "\n" + m.group(1) + ":");
+        }
+        StringBuilder due = new StringBuilder();
+        for (String[] section : SECTIONS) {
+            due.append('\n').append(section[0]).append(':');
+            for (int i = 1; i < section.length; i++) {
+                due.append(' ').append(section[i]);
+            }
+        }
+        check.same("the calls by sections", got.toString(), due.toString());
+    }
+
+    private void library(String code) {
+        Set<String> inside = new HashSet<>();
+        for (Class<?> type : SandTreaty.class.getDeclaredClasses()) {
+            inside.add(type.getSimpleName());
+        }
+        Matcher m = Pattern.compile("\\b([A-Z][A-Za-z]*)\\.(\\w+)\\(").matcher(code);
+        while (m.find()) {
+            String called = m.group(1) + "." + m.group(2);
+            check.that("the library has " + called, LIBRARY.contains(called) || inside.contains(m.group(1)));
+        }
+        check.that("no texts, no lists", !Pattern.compile("\\b(String|StringBuilder|List|ArrayList|Arrays|Iterator)\\b|\"")
+            .matcher(code).find());
+    }
+
+    /** All rows and objects are made in constructors: a call that made some would use up the room of a run. */
+    private void made(String[] lines) {
+        String constructor = "";
+        for (String line : lines) {
+            Matcher opens = Pattern.compile("^( +)(?:public )?[A-Z]\\w*\\([^)]*\\) \\{$").matcher(line);
+            if (opens.find()) {
+                constructor = opens.group(1);
+            } else if (line.equals(constructor + "}")) {
+                constructor = "";
+            }
+            boolean isField = line.matches("^ {8}(private )?(static )?final [^(]* = new .*;$");
+            check.that("made in a constructor: " + line.trim(),
+                !Pattern.compile("\\bnew\\b").matcher(line).find() || isField || !constructor.isEmpty());
+        }
     }
 
     /** A method opens with a line that ends in ") {" at the depth of members and closes at the same depth. */
